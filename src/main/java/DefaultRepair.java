@@ -385,7 +385,7 @@ public final class DefaultRepair {
         fresh = true;
     }
 
-    /** Marks every set that has all of some clash. */
+    /** A row of all sets, so that trying one statement more is one look and not one at each clash. */
     private void markClashing() {
         int sets = setCount();
         for (int set = 0; set < sets; set++) {
