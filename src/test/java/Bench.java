@@ -49,9 +49,10 @@ final class Bench {
         x.clash(10);
         x.clash(24);
         x.clash(32 | 1);
-        x.support(0, 3);
+        x.support(0, 12);
         x.support(0, 4);
         x.support(7, 16);
+        x.support(3, 32);
         x.order(2);
     }
 

@@ -61,6 +61,7 @@ public final class BoundariesTest {
             due("2 there", x.surely(k), 2);
             due("2 hard or not", x.harden(k, k % 2 == 1), 0);
         }
+        for (int k = 0; k < 11; k++) due("2 still hard or not", x.harden(k, k % 2 == 1), 0);
     }
 
     /** Promise 2: "BAD for another rank" */
@@ -497,6 +498,7 @@ public final class BoundariesTest {
         Counted x = Bench.defaults(3);
         x.harden(0, true);
         x.clash(6);
+        BENCH.repairs("14 neither of these", x, 3, 5);
         for (int order = 0; order < 4; order++) {
             due("14 all of a clash, order " + order, x.better(6, 2, order), 1);
             due("14 than all of a clash, order " + order, x.better(2, 6, order), 0);

@@ -61,7 +61,11 @@ final class Refusals {
         for (int order = 0; order < 4; order++) {
             seen.add(x.order(order));
             seen.add(x.find());
-            for (int k = 0; k < LOOKED_AT; k++) seen.add(x.kept(k));
+            for (int k = 0; k < LOOKED_AT; k++) {
+                seen.add(x.kept(k));
+                seen.add(x.truth(k));
+                seen.add(x.surely(k));
+            }
         }
         return seen;
     }

@@ -1,3 +1,5 @@
+import java.util.function.ToIntFunction;
+
 /** The sentences of "What it is" and "Terms" that name a boundary, each with a test of its own. */
 public final class TermsTest {
     private static final int BAD = Bench.BAD;
@@ -29,6 +31,33 @@ public final class TermsTest {
         }
         while (x.calls() < Counted.MOST_CALLS - 1) x.size();
         due("512: the 512th", x.find(), (rounds - 1) % 4 < 2 ? 21 : 1);
+        due("512: so many were made", x.calls(), 512);
+        lastCalls();
+    }
+
+    private static void lastCalls() {
+        lastCall("fact", x -> x.fact(false, 0, 1), 10);
+        lastCall("harden", x -> x.harden(0, true), 1);
+        lastCall("weight", x -> x.weight(0, 7, 1000), 1);
+        lastCall("clash", x -> x.clash(0), 2);
+        lastCall("settle", x -> x.settle(), 0);
+        lastCall("support", x -> x.support(7, 1), 1);
+        lastCall("order", x -> x.order(3), 1);
+        lastCall("find", x -> x.find(), 2);
+        lastCall("kept", x -> x.kept(1), 1022);
+        lastCall("left", x -> x.left(0, 0), 1);
+        lastCall("truth", x -> x.truth(0), 0);
+        lastCall("surely", x -> x.surely(0), 1);
+        lastCall("better", x -> x.better(3, 1, 3), 1);
+        lastCall("least", x -> x.least(0), 3);
+        lastCall("size", x -> x.size(), 10);
+    }
+
+    private static void lastCall(String what, ToIntFunction<Counted> last, int want) {
+        Counted x = Bench.defaults(10);
+        x.clash(3);
+        while (x.calls() < Counted.MOST_CALLS - 1) x.find();
+        due("512: as the 512th, " + what, last.applyAsInt(x), want);
     }
 
     /** "what later calls answer is free": but no call may throw. */
