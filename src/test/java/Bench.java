@@ -7,7 +7,7 @@ final class Bench {
     static final int MAX = Integer.MAX_VALUE;
 
     final Check check = new Check();
-    final Refusals refusals = new Refusals(check);
+    final Twins twins = new Twins(check);
 
     void due(String call, int got, int want) {
         check.due(call, got, want);

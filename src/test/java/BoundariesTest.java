@@ -21,7 +21,7 @@ public final class BoundariesTest {
     }
 
     private static void refused(String what, Consumer<Counted> making, ToIntFunction<Counted> call, int answer) {
-        BENCH.refusals.due(what, making, call, answer);
+        BENCH.twins.due(what, making, call, answer);
     }
 
     /** Numbers of no statement of an object that has this many; a shift by 32 or 64 more would find one. */

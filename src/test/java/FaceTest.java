@@ -19,8 +19,17 @@ public final class FaceTest {
             "int better(int,int,int)", "int least(int)", "int size()"));
 
     private static final String[] RULED_OUT = {
-        "throw", "try", "catch", "synchronized", "assert", "import", "package", "->", "::", "Exact\\b"
+        "throw", "try", "catch", "synchronized", "assert", "import", "package", "->", "::", "Exact\\b",
+        "throws", "protected", "volatile", "native", "float", "double", "Object", "System", "Thread", "Random",
+        "Float", "Double", "hashCode", "toString", "equals", "java", "while \\(true\\)", "static \\{"
     };
+
+    private static final Set<Class<?>> FIELD_TYPES =
+            Set.of(int.class, long.class, boolean.class, int[].class, long[].class, boolean[].class);
+
+    private static final int MOST_PARAMETERS = 7;
+    private static final int MOST_FIELDS = 20;
+    private static final int MOST_LINES = 60;
 
     private static String face(Method m) {
         return m.getReturnType() + " " + m.getName() + Arrays.stream(m.getParameterTypes())
@@ -73,8 +82,43 @@ public final class FaceTest {
     private static void words(Check check, String path) throws Exception {
         String code = Files.readString(Path.of(path)).replaceAll("(?s)/\\*.*?\\*/", "").replaceAll("//[^\n]*", "");
         for (String word : RULED_OUT) {
-            String sought = Character.isLetter(word.charAt(0)) && !word.startsWith("Exact") ? "\\b" + word + "\\b" : word;
+            String sought = word.matches("[A-Za-z]+") ? "\\b" + word + "\\b" : word;
             check.isTrue("the code has no " + word, !Pattern.compile(sought).matcher(code).find());
+        }
+    }
+
+    /** Rules 1, 2, 3 and 11: types, how many fields and parameters, classes inside. */
+    private static void sizes(Check check) {
+        int fields = 0;
+        for (Field f : DefaultRepair.class.getDeclaredFields()) {
+            if (!Modifier.isStatic(f.getModifiers())) fields++;
+            check.isTrue(f.getName() + " is of a simple type", FIELD_TYPES.contains(f.getType()));
+        }
+        check.isTrue(fields + " fields are not too many", fields <= MOST_FIELDS);
+        for (Method m : DefaultRepair.class.getDeclaredMethods()) {
+            check.isTrue(m.getName() + " has not too many parameters", m.getParameterCount() <= MOST_PARAMETERS);
+        }
+        for (Class<?> inside : DefaultRepair.class.getDeclaredClasses()) {
+            int m = inside.getModifiers();
+            check.isTrue(inside.getName() + " is static and not open",
+                    Modifier.isStatic(m) && !Modifier.isPublic(m) && !Modifier.isProtected(m));
+        }
+    }
+
+    /** Rule 11: methods stay short; rule 12: objects are made by the constructor alone. */
+    private static void methodsInTheFile(Check check, String path) throws Exception {
+        String head = "";
+        int lines = 0;
+        for (String line : Files.readAllLines(Path.of(path))) {
+            lines++;
+            if (line.matches(" {4}\\S.*\\) \\{")) {
+                head = line.trim();
+                lines = 0;
+            }
+            if (line.equals("    }")) check.isTrue(head + " stays short", lines <= MOST_LINES);
+            if (line.matches(".*\\bnew\\b.*\\[.*")) {
+                check.isTrue(line.trim() + " stands in the constructor", head.startsWith("public DefaultRepair()"));
+            }
         }
     }
 
@@ -82,7 +126,10 @@ public final class FaceTest {
         Check check = new Check();
         members(check);
         fields(check);
-        words(check, args.length > 0 ? args[0] : "src/main/java/DefaultRepair.java");
+        sizes(check);
+        String path = args.length > 0 ? args[0] : "src/main/java/DefaultRepair.java";
+        words(check, path);
+        methodsInTheFile(check, path);
         check.end();
     }
 }

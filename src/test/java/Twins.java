@@ -6,28 +6,29 @@ import java.util.function.Function;
 import java.util.function.ToIntFunction;
 
 /**
- * Refused calls: their answers, and that the calls behind them answer as if they had not been made.
- * Two objects are made alike; one of them gets the refused call, and then both are looked at.
+ * Calls that change nothing, refused ones and questions: their answers, and that the calls behind
+ * them answer as if they had not been made. Two objects are made alike; one of them gets the call,
+ * and then both are looked at.
  */
-final class Refusals {
+final class Twins {
     private static final int LOOKED_AT = 12;
 
     private static final List<Function<Counted, List<Integer>>> VIEWS = Arrays.asList(
-            Refusals::asked, Refusals::byAllOrders, Refusals::compared, Refusals::settled, Refusals::filled);
+            Twins::asked, Twins::byAllOrders, Twins::compared, Twins::settled, Twins::filled);
 
     private final Check check;
 
-    Refusals(Check check) {
+    Twins(Check check) {
         this.check = check;
     }
 
-    void due(String what, Consumer<Counted> making, ToIntFunction<Counted> refused, int answer) {
+    void due(String what, Consumer<Counted> making, ToIntFunction<Counted> call, int answer) {
         for (int view = 0; view < VIEWS.size(); view++) {
             // An object that has been asked may have its repairs still in mind.
             for (int askedBefore = 0; askedBefore < 2; askedBefore++) {
                 Counted with = made(making, askedBefore == 1);
                 Counted without = made(making, askedBefore == 1);
-                check.due(what, refused.applyAsInt(with), answer);
+                check.due(what, call.applyAsInt(with), answer);
                 List<Integer> got = VIEWS.get(view).apply(with);
                 List<Integer> want = VIEWS.get(view).apply(without);
                 check.isTrue(what + ": view " + view + " of it is " + got + ", without it " + want, got.equals(want));
