@@ -1,6 +1,6 @@
 /**
- * Every world of up to three statements, with every family of clashes among three, every choice of
- * hard ones, and all four orders, compared with the model.
+ * Up to three statements with every family of clashes among three, every choice of hard ones, every
+ * choice of two ranks, a weight row for each of these, and all four orders, compared with the model.
  */
 public final class SmallWorldsTest {
     private static final int MOST = 3;
